@@ -83,6 +83,7 @@ final class YardTest {
         reads("limit 99;wall 1 1;", 2);
         reads("wall 1 1;wall 1 1;sees 0 1 4;sees 1 0 6;", 4);
         reads("wall 1 1;work 0 20 15 15;work 0 0 0 0;", 3);
+        reads("wall1 1;wall1 1;" + "sees0 1 1;".repeat(10) + "work0 0 0 0;".repeat(11) + "  ", 23);
     }
 
     private static void reads(String text, int items) {
@@ -96,7 +97,8 @@ final class YardTest {
         // The sign ^ stands ahead of the TOKEN at fault; it is not typed.
         String[] texts = {
             "wall^", "wall ^", "wall 1^", "wall 1 1^", "wall 1 1   ^", "limit 1^", "  wall 1 1;  wall ^",
-            "^wal 1 1;", "^walls 1 1;", "^wallsees", "^Wall 1 1;", "^wAll 1 1;", "wall 1 1;^x", "^;", "wall 1 1;^;", "^1",
+            "^wal 1 1;", "^walls 1 1;", "^wallsees", "^wallz 1 1;", "^awall 1 1;", "^mall 1 1;", "wall^` 1;", "wall^{1 1;", "wall ^/ 1;", "wall ^: 1;",
+            "^Wall 1 1;", "^wAll 1 1;", "wall 1 1;^x", "^;", "wall 1 1;^;", "^1",
             "wall^;", "wall ^wall 1;", "wall 1 ^wall;", "wall 11^;", "wall 1 1 ^1;", "wall 1 1 ^wall 1 1;",
             "wall ^100 1;", "wall 1 ^10;", "wall ^01 1;", "wall ^00 1;", "wall 1 ^00;", "wall 1 ^01;", "wall ^000 1;",
             "wall ^4294967297 1;", "wall ^18446744073709551617 1;", "wall 1 ^-1;", "wall 1^\t1;", "wall 1 1^,", "^\u0000",
@@ -112,6 +114,7 @@ final class YardTest {
             "limit ^100;", "limit 1;^limit 1;", "limit 1 ^1;", "limit^;", "limit ^limit;",
             "wall 1 1;wall 1 1;wall 1 1;wall 1 1;wall 1 1;wall 1 1;^wall 1 1;",
             "wall 1 1;wall 1 1;wall 1 1;wall 1 1;wall 1 1;wall 1 1;limit 1;^wall",
+            "^" + ";".repeat(250), " ".repeat(246) + "wall^", "wall 1 1;" + " ".repeat(240) + "^1",
             "wall ^100 @;", "wall ^@ 100;", "wall 1 1; ^@ wall",
         };
         for (String marked : texts) {
