@@ -507,9 +507,11 @@ public final class SeenCools {
         }
 
         void addWall(int itsWarmth, int itsRate) {
-            warmth[number] = itsWarmth;
-            rate[number] = itsRate;
-            number++;
+            if (hasRoom()) {
+                warmth[number] = itsWarmth;
+                rate[number] = itsRate;
+                number++;
+            }
         }
 
         int partsLeft(int a, int b) {

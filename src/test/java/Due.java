@@ -24,11 +24,11 @@ final class Due {
         }
     }
 
-    /** A call that is refused: its answer, and that all stays as it was. */
+    /** A call that is refused: its answer, and that it left the object as it was, as far as few calls show it. */
     static void refused(SeenCools x, String call, LongSupplier asks, long want) {
-        String before = picture(x);
+        String before = sketch(x);
         due(call, asks.getAsLong(), want);
-        due("the yard behind " + call, picture(x), before);
+        due("the yard behind " + call, sketch(x), before);
     }
 
     /** Calls that ask only: that all stays as it was. */
@@ -49,6 +49,26 @@ final class Due {
         }
     }
 
+    /** A text without a fault: so many ITEMS, and it is empty then. */
+    static SeenCools reads(String text, int items) {
+        SeenCools x = new SeenCools();
+        put(x, text);
+        due("walls() of \"" + text + "\"", x.walls(), items);
+        due("count(6) behind \"" + text + "\"", x.count(6), 0);
+        return x;
+    }
+
+    /** A text with a FAULT: the sign ^ stands ahead of the TOKEN at fault (it is not typed). */
+    static void fault(String marked) {
+        int place = marked.indexOf('^');
+        String text = marked.substring(0, place) + marked.substring(place + 1);
+        SeenCools x = new SeenCools();
+        put(x, text);
+        due("walls() of \"" + text + "\"", x.walls(), -10 - place);
+        due("count(6) behind \"" + text + "\"", x.count(6), text.length());
+        due("count(0) behind \"" + text + "\"", x.count(0), 0);
+    }
+
     static SeenCools yard(String text) {
         SeenCools x = new SeenCools();
         put(x, text);
@@ -66,15 +86,16 @@ final class Due {
     }
 
     static String warmths(SeenCools x) {
+        int walls = x.count(0);
         StringBuilder all = new StringBuilder();
-        for (int w = 0; w < x.count(0); w++) {
+        for (int w = 0; w < walls; w++) {
             all.append(w == 0 ? "" : " ").append(x.wall(w, 0));
         }
         return all.toString();
     }
 
-    /** All that can be asked at little cost and changes nothing. */
-    static String picture(SeenCools x) {
+    /** Of an object as many calls as can be made for each refused one; Shown tells all of it. */
+    private static String sketch(SeenCools x) {
         StringBuilder all = new StringBuilder();
         for (int what = 0; what <= 6; what++) {
             all.append(x.count(what)).append(' ');
@@ -82,11 +103,18 @@ final class Due {
         for (int what = 0; what <= 4; what++) {
             all.append(x.now(what)).append(' ');
         }
-        for (int w = 0; w < x.count(0); w++) {
+        return all.toString();
+    }
+
+    /** All that can be asked at little cost and changes nothing. */
+    static String picture(SeenCools x) {
+        int walls = x.count(0);
+        StringBuilder all = new StringBuilder(sketch(x));
+        for (int w = 0; w < walls; w++) {
             for (int what = 0; what <= 6; what++) {
                 all.append(x.wall(w, what)).append(' ');
             }
-            for (int v = 0; v < x.count(0); v++) {
+            for (int v = 0; v < walls; v++) {
                 all.append(x.sees(w, v)).append(' ');
             }
             all.append(x.behind(9, w)).append(' ');

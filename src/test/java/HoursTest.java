@@ -7,7 +7,6 @@ final class HoursTest {
         promise7Hour();
         promise7ShutAndMirrors();
         promise7Works();
-        promise7Last();
         promise8Shut();
         promise9Mirror();
         promise10Undo();
@@ -63,15 +62,6 @@ final class HoursTest {
             x.hour();
             Due.due("WARMTHS behind " + (i + 1) + " HOURS", Due.warmths(x), due[i]);
         }
-    }
-
-    /** Beyond 512 calls what is answered is free; the program stops at HOUR 999 all the same. */
-    private static void promise7Last() {
-        SeenCools x = Due.yard("wall 1 0;");
-        Due.hours(x, 998);
-        Due.due("hour() at 998", x.hour(), 0);
-        Due.refused(x, "hour() at 999", x::hour, STATE);
-        Due.due("now(0)", x.now(0), 999);
     }
 
     private static void promise8Shut() {

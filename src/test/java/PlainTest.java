@@ -4,6 +4,7 @@
  */
 final class PlainTest {
     private static final int OBJECTS = 500;
+    private static final int CALLS = 512;
     private static long row;
 
     private static int some(int bound) {
@@ -23,9 +24,10 @@ final class PlainTest {
         SeenCools x = new SeenCools();
         Plain p = new Plain();
         int calls = 0;
-        while (calls < 512 && Due.wrong == 0) {
-            if (calls == 0 || some(60) == 0) {
-                calls += tell(x, p, text());
+        while (calls < CALLS && Due.wrong == 0) {
+            String text = calls == 0 || some(60) == 0 ? text() : null;
+            if (text != null && calls + text.length() + 2 <= CALLS) {
+                calls += tell(x, p, text);
             } else {
                 calls++;
                 String call = ask(x, p);
@@ -151,11 +153,11 @@ final class PlainTest {
             case 12: return some(3) != 0 ? saw(x, p, w) : due("forget()", x.forget(), p.forget());
             case 13: return due("keep(" + image + ")", x.keep(image), p.keep(image));
             case 14: return due("back(" + image + ")", x.back(image), p.back(image));
+            case 15: return due("trace()", x.trace(), p.trace());
             default: break;
         }
         int kind = near(0, 5);
-        due(two("mark", kind, w), x.mark(kind, w), p.mark(kind, w));
-        return due("trace()", x.trace(), p.trace());
+        return due(two("mark", kind, w), x.mark(kind, w), p.mark(kind, w));
     }
 
     /** Mostly what may well have been, with one RATE another. */

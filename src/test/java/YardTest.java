@@ -74,27 +74,19 @@ final class YardTest {
     }
 
     private static void promise4Items() {
-        reads("", 0);
-        reads("     ", 0);
-        reads("wall 1 1;", 1);
-        reads("  wall   1   1  ;  ", 1);
-        reads("wall1 1;wall2 2;sees0 1 5;work1 3 0 15;limit0;", 5);
-        reads("wall 0 0;wall 99 9;wall 10 1;wall 9 9;wall 1 1;wall 5 5;", 6);
-        reads("limit 99;wall 1 1;", 2);
-        reads("wall 1 1;wall 1 1;sees 0 1 4;sees 1 0 6;", 4);
-        reads("wall 1 1;work 0 20 15 15;work 0 0 0 0;", 3);
-        reads("wall1 1;wall1 1;" + "sees0 1 1;".repeat(10) + "work0 0 0 0;".repeat(11) + "  ", 23);
-    }
-
-    private static void reads(String text, int items) {
-        SeenCools x = new SeenCools();
-        Due.put(x, text);
-        Due.due("walls() of \"" + text + "\"", x.walls(), items);
-        Due.due("count(6) behind it", x.count(6), 0);
+        Due.reads("", 0);
+        Due.reads("     ", 0);
+        Due.reads("wall 1 1;", 1);
+        Due.reads("  wall   1   1  ;  ", 1);
+        Due.reads("wall1 1;wall2 2;sees0 1 5;work1 3 0 15;limit0;", 5);
+        Due.reads("wall 0 0;wall 99 9;wall 10 1;wall 9 9;wall 1 1;wall 5 5;", 6);
+        Due.reads("limit 99;wall 1 1;", 2);
+        Due.reads("wall 1 1;wall 1 1;sees 0 1 4;sees 1 0 6;", 4);
+        Due.reads("wall 1 1;work 0 20 15 15;work 0 0 0 0;", 3);
+        Due.reads("wall1 1;wall1 1;" + "sees0 1 1;".repeat(10) + "work0 0 0 0;".repeat(11) + "  ", 23);
     }
 
     private static void promise4Faults() {
-        // The sign ^ stands ahead of the TOKEN at fault; it is not typed.
         String[] texts = {
             "wall^", "wall ^", "wall 1^", "wall 1 1^", "wall 1 1   ^", "limit 1^", "  wall 1 1;  wall ^",
             "^wal 1 1;", "^walls 1 1;", "^wallsees", "^wallz 1 1;", "^awall 1 1;", "^mall 1 1;", "wall^` 1;", "wall^{1 1;", "wall ^/ 1;", "wall ^: 1;",
@@ -118,11 +110,7 @@ final class YardTest {
             "wall ^100 @;", "wall ^@ 100;", "wall 1 1; ^@ wall",
         };
         for (String marked : texts) {
-            int fault = marked.indexOf('^');
-            String text = marked.substring(0, fault) + marked.substring(fault + 1);
-            SeenCools x = new SeenCools();
-            Due.put(x, text);
-            Due.refused(x, "walls() of \"" + text + "\"", x::walls, -10 - fault);
+            Due.fault(marked);
         }
     }
 
