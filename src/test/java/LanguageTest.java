@@ -32,6 +32,8 @@ final class LanguageTest {
         String code = withoutComments(source);
         words(code);
         calls(code);
+        made(code);
+        lengths(code);
         Due.end("LanguageTest");
     }
 
@@ -120,5 +122,29 @@ final class LanguageTest {
         while (m.find()) {
             Due.due(m.group() + " of the library", library.contains(m.group()) ? 1 : 0, 1);
         }
+    }
+
+    /** All is made with the object: in a field's own line, or (the images) in the constructor. */
+    private static void made(String code) {
+        int within = 0;
+        for (String line : code.split("\n")) {
+            if (line.matches(".*\\bnew\\b.*")) {
+                boolean field = line.matches(" +(private |final )+\\w+(\\[\\])? \\w+ = new \\w+[(\\[].*;");
+                within += field ? 0 : 1;
+            }
+        }
+        int start = code.indexOf("public SeenCools()");
+        String constructor = start < 0 ? "" : code.substring(start, code.indexOf("\n    }", start));
+        Due.due("what is made beside fields", within, constructor.split("\\bnew\\b", -1).length - 1);
+    }
+
+    private static void lengths(String code) {
+        Matcher m = Pattern.compile("(?m)^( {4}| {8})(?! |.*\\bclass\\b).*\\) \\{$(?s:.*?)^\\1\\}$").matcher(code);
+        int methods = 0;
+        while (m.find()) {
+            methods++;
+            Due.due("some sixty lines at most of" + m.group().split("\n")[0], m.group().lines().count() <= 60 ? 1 : 0, 1);
+        }
+        Due.due("methods are found", methods > 90 ? 1 : 0, 1);
     }
 }
